@@ -1,5 +1,7 @@
 /** Promises 15 to 19: round, from, settle, still, hush. */
 final class PlacesTest {
+    private static final String TWO_STEPS = "c1;n1;s1;s9;s9,33";
+
     public static void main(String[] args) {
         rounds();
         origins();
@@ -15,9 +17,10 @@ final class PlacesTest {
         Due.due("and stays", x.round(0, 1), 1);
         Due.due("stays from the first", x.round(2, 0), 0);
         Due.due("and stays", x.round(2, 1), 1);
-        // without walls' share a step at a time: from 5 the clock comes down house by house, for each ties with the one below
-        ClockWakers steps = Due.street("c1;s1;s2;s3,92");
-        Due.due("to the least of those alike", steps.round(0, 0), 1);
+        // from house 3 house 0 hears just nothing, so house 1 gets it; from there house 0 is alike, and the least
+        ClockWakers steps = Due.street(TWO_STEPS);
+        Due.due("goes twice", steps.round(0, 0), 2);
+        Due.due("and stays", steps.round(0, 1), 1);
         ClockWakers silent = Due.street("c3;s9;s9,10");
         Due.all("nobody wakes: it stays", 0, silent.round(0, 0), silent.round(0, 1) - 1);
         Due.due("nothing is changed", x.ofClock(0, 2), 2);
@@ -46,6 +49,7 @@ final class PlacesTest {
         Due.all("nothing is changed", 0, x.ofClock(0, 2) - 2, x.ofClock(1, 2), x.many(3));
         x.nights(1);
         Due.due("from the first", x.settle(), 0);
+        Due.due("behind two nights", Due.street(TWO_STEPS).settle(), 2);
         Due.due("nobody wakes", Due.street("c3;s9;s9,10").settle(), 0);
     }
 

@@ -35,8 +35,9 @@ final class StrokesTest {
         Due.due("night", x.many(3), 1);
         Due.due("none goes any more", x.nights(60), 0);
         Due.due("night", x.many(3), 61);
-        // by walls of 1 the clock goes step by step: it is elsewhere behind two nights, not twice
-        Due.due("elsewhere than it did", Due.street(Due.FIVE).nights(2), 2);
+        ClockWakers twice = Due.street("c1;n1;s1;s9;s9,33");
+        Due.due("a clock that goes twice stands elsewhere but once", twice.nights(2), 1);
+        Due.due("it went on", twice.ofClock(0, 2), 0);
         Due.all("how many nights", -2, x.nights(0), x.nights(61), x.nights(-1), x.nights(Due.MIN), x.nights(Due.MAX), new ClockWakers().nights(0));
         Due.due("no street", new ClockWakers().nights(60), -3);
         Due.due("refusals change nothing", x.many(3), 61);
