@@ -26,6 +26,7 @@ public final class ClockWakers {
     private final Arrangement arrangement = new Arrangement();
     private final Sheet[] sheets = {new Sheet(), new Sheet(), new Sheet(), new Sheet()};
     private final int[] strokesUntil = new int[MOST_HOUSES];
+    private int night;
     private int traceLeft;
     private int latestFault;
 
@@ -58,6 +59,7 @@ public final class ClockWakers {
             return WRONG_BASE - firstFault;
         }
         now.become(trial);
+        night = 0;
         readings.count = 0;
         return now.clocks;
     }
@@ -149,6 +151,7 @@ public final class ClockWakers {
         }
         trial.become(now);
         now.passNights(n);
+        night += n;
         int elsewhere = 0;
         for (int c = 0; c < now.clocks; c++) {
             if (now.place[c] != trial.place[c]) {
@@ -258,12 +261,12 @@ public final class ClockWakers {
             return STATE;
         }
         trial.become(now);
-        for (int night = 0; night <= LAST_SETTLED_NIGHT; night++) {
+        for (int behind = 0; behind <= LAST_SETTLED_NIGHT; behind++) {
             int before = trial.carried;
             trial.passNights(1);
             // each clock strikes but once a night, so it stands elsewhere just if it was carried
             if (trial.carried == before) {
-                return night;
+                return behind;
             }
         }
         return NONE;
@@ -509,7 +512,7 @@ public final class ClockWakers {
             case 0: return now.houses;
             case 1: return now.clocks;
             case 2: return now.thick;
-            case 3: return now.night;
+            case 3: return night;
             case 4: return readings.count;
             default: return OUTSIDE;
         }
@@ -672,7 +675,6 @@ public final class ClockWakers {
         int houses;
         int clocks;
         int thick;
-        int night;
         /** Strokes, since this street became what it is, that carried a clock elsewhere, and that woke nobody. */
         int carried;
         int unheard;
@@ -681,7 +683,6 @@ public final class ClockWakers {
             houses = 0;
             clocks = 0;
             thick = 0;
-            night = 0;
             carried = 0;
             unheard = 0;
         }
@@ -691,7 +692,6 @@ public final class ClockWakers {
             houses = other.houses;
             clocks = other.clocks;
             thick = other.thick;
-            night = other.night;
             for (int h = 0; h < houses; h++) {
                 kind[h] = other.kind[h];
                 depth[h] = other.depth[h];
@@ -804,7 +804,6 @@ public final class ClockWakers {
                     strike(c);
                 }
             }
-            night += n;
         }
 
         int clocksIn(int h) {
@@ -850,15 +849,13 @@ public final class ClockWakers {
     private static final class Text {
         private static final int NO_DIGIT = -1;
 
-        private Sheet row;
-        private int start;
+        private final int[] codes = new int[MOST_CELLS];
         private int count;
         private int at;
 
         /** NONE if the text is whole (then into is its street), else its first fault. */
         int read(Sheet from, int first, int howMany, Street into) {
-            row = from;
-            start = first;
+            System.arraycopy(from.cells, first, codes, 0, howMany);
             count = howMany;
             at = 0;
             into.clear();
@@ -905,7 +902,7 @@ public final class ClockWakers {
         }
 
         private boolean takeSign(char sign) {
-            if (at >= count || row.cells[start + at] != sign) {
+            if (at >= count || codes[at] != sign) {
                 return false;
             }
             at++;
@@ -916,7 +913,7 @@ public final class ClockWakers {
             if (at >= count) {
                 return NO_DIGIT;
             }
-            int code = row.cells[start + at];
+            int code = codes[at];
             if (code < '0' + least || code > '0' + most) {
                 return NO_DIGIT;
             }

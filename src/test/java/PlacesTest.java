@@ -65,6 +65,12 @@ final class PlacesTest {
         // 9 in the last house wakes him, too; the first house wakes three
         Due.due("fewest", most.still(-1), 3);
         Due.all("all in the first house", 0, most.still(0), most.still(1), most.still(2), most.still(3));
+        ClockWakers loud = Due.street("c0;s1;s2,90,90");
+        Due.all("all wake, wherever", 0, loud.still(-1) - 2, loud.still(0), loud.still(1));
+        loud.drowse(1, 9);
+        loud.tune(0, 8);
+        loud.tune(1, 8);
+        Due.all("all but one", 0, loud.still(-1) - 1, loud.still(0), loud.still(1));
         ClockWakers quiet = Due.street("c3;n1;s9;s9,30,30");
         Due.all("nobody wakes", 0, quiet.still(-1), quiet.still(0) - 1, quiet.still(1) - 1);
         Due.all("clock", -2, x.still(-2), x.still(4), x.still(Due.MAX), x.still(Due.MIN), new ClockWakers().still(4));
@@ -78,6 +84,7 @@ final class PlacesTest {
         Due.due("none need be", x.hush(3), 0);
         x.stuff(1);
         Due.due("that are not stuffed yet", x.hush(0), 1);
+        Due.due("all four", Due.street("c0;s5;s9,90,80,71,61").hush(0), 15);
         ClockWakers stuffed = Due.street("c0;s2;s9,50");
         stuffed.stuff(0);
         Due.due("one that is stuffed wakes him", stuffed.hush(0), -9);

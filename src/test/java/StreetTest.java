@@ -59,6 +59,12 @@ final class StreetTest {
             }
         }
         firstFault("x", 0);
+        firstFault(";s5;n4,91", 0);
+        firstFault("c;s5;n4,91", 1);
+        firstFault("c1;s5;n4;s,91", 10);
+        firstFault("c1;s5;n4;5,91", 9);
+        firstFault("c1;s5;n4,,91", 9);
+        firstFault("c1;s5;n4,9,91", 10);
         firstFault("C1;s5;n4,91", 0);
         firstFault("c4;s5;n4,91", 1);
         firstFault("c/;s5;n4,91", 1);
@@ -77,6 +83,14 @@ final class StreetTest {
         firstFault("c1;s5;n4,91;s3", 11);
         firstFault("c1;s5;n4,91,91,91,91,91", 20);
         firstFault("c1;s5;n4,91 ", 11);
+        // a text ends with its cells, though the row goes on
+        ClockWakers longer = new ClockWakers();
+        Due.read(longer, whole);
+        for (int n = 0; n < 23; n++) {
+            Due.due("the first cells of a row", longer.street(3, 0, 0, n), -100 - n);
+        }
+        Due.due("the first cells of a row", longer.street(3, 0, 0, 24), -124);
+        Due.due("the first cells of a row", longer.street(3, 0, 0, 23), 1);
         // codes that are only alike when they are cut
         ClockWakers x = new ClockWakers();
         Due.write(x, 0, 2, 'c' + 256, '1', ';', 's', '5', ';', 'n', '4', ',', '9', '1');
@@ -114,6 +128,7 @@ final class StreetTest {
         x.nights(3);
         x.reading(0, 0, 0, 1);
         x.tell(0);
+        x.settle();
         Due.due("night", x.many(3), 3);
         Due.due("readings", x.many(4), 1);
         Due.due("a text that is not taken", Due.read(x, "c1;s"), -104);
@@ -123,6 +138,8 @@ final class StreetTest {
         Due.due("trace is no part of it", x.trace(), 1);
         Due.due("a shorter one", Due.read(x, "c0;s1;s1,10"), 1);
         Due.all("what was more is gone", -1, x.ofHouse(2, 0), x.ofClock(1, 0));
+        Due.all("clocks 1 and 2, too", 1, x.ofHouse(0, 3), x.ofHouse(0, 4), x.ofHouse(1, 4), Due.season(x, 4, 0, 3), x.stuff(0));
+        Due.due("one clock of two houses", x.ease(0) + x.odds(0, 1), 1);
     }
 
     private static void houses() {

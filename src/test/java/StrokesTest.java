@@ -3,6 +3,7 @@ final class StrokesTest {
     public static void main(String[] args) {
         strokes();
         nights();
+        fourClocks();
         stuffing();
         carrying();
         seasonsPlayed();
@@ -43,6 +44,23 @@ final class StrokesTest {
         Due.due("refusals change nothing", x.many(3), 61);
     }
 
+    private static void fourClocks() {
+        ClockWakers x = Due.street("c0;s1;s9;n1,51,61,71,80");
+        Due.due("all three but not the last one's house", x.ofHouse(1, 3), 7);
+        Due.due("all wake him", x.ofHouse(2, 4), 15);
+        Due.due("all go to house 2", x.nights(1), 4);
+        Due.due("all stand there", x.ofHouse(2, 3), 15);
+        for (int c = 0; c < 4; c++) {
+            Due.due("stuff", x.stuff(c), c + 1);
+        }
+        Due.due("all are stuffed", Due.season(x, 0, 0, 3), 15);
+        Due.due("all stand there", Due.season(x, 4, 0, 3), 4);
+        Due.due("clock 3", Due.season(x, 13, 1, 13), 1);
+        Due.due("odds", x.odds(2, 0), 1);
+        Due.due("one can't be hushed", x.hush(2), -9);
+        Due.due("one is", x.hush(1), 0);
+    }
+
     private static void stuffing() {
         ClockWakers x = Due.street(Due.FIVE);
         Due.due("stuff", x.stuff(2), 1);
@@ -81,6 +99,11 @@ final class StrokesTest {
         Due.due("no clock 3", Due.season(x, 13, acts), -9);
         Due.due("carried by strokes", Due.season(Due.street(Due.FIVE), 2, acts), 2);
         Due.due("strokes nobody woke by", Due.season(Due.street(Due.FIVE), 3, acts), 9);
+        ClockWakers deaf = Due.street("c3;s9;s9,10,10,10,10");
+        deaf.stroke(0);
+        for (int k = 0; k < 2; k++) {
+            Due.due("in this season alone", Due.season(deaf, 3, 2, 3), 8);
+        }
         Due.due("no nights", Due.season(x, 2, 0, 3), 0);
         Due.due("a stroke there and a carrying back", Due.season(x, 2, 0, 0, 2, 10, 0, 0), 2);
         Due.due("carrying is no stroke", Due.season(x, 2, 0, 10, 1, 10), 0);
