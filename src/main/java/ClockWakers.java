@@ -314,7 +314,7 @@ public final class ClockWakers {
         if (readings.count >= MOST_READINGS) {
             return FULL;
         }
-        return readings.note(c, at, now.stuffed[c], h, woke == 1);
+        return readings.note(c, at, h, woke == 1);
     }
 
     public int back(int n) {
@@ -937,24 +937,21 @@ public final class ClockWakers {
         private final int[] clock = new int[MOST_READINGS];
         private final int[] place = new int[MOST_READINGS];
         private final int[] house = new int[MOST_READINGS];
-        /** Kept as it was when it was read: a clock that is eased later was still heard through its stuffing. */
-        private final boolean[] stuffed = new boolean[MOST_READINGS];
         private final boolean[] woke = new boolean[MOST_READINGS];
         int count;
 
-        int note(int c, int at, boolean isStuffed, int h, boolean hasWoken) {
+        int note(int c, int at, int h, boolean hasWoken) {
             clock[count] = c;
             place[count] = at;
-            stuffed[count] = isStuffed;
             house[count] = h;
             woke[count] = hasWoken;
             return count++;
         }
 
+        /** Only where the clock stood is the reading's own: whether it is stuffed is asked of the street, as it is by now. */
         int bitIfAllHold(Street street, int bit) {
             for (int r = 0; r < count; r++) {
-                int sound = street.soundIf(clock[r], stuffed[r]);
-                if (street.wakes(house[r], sound, place[r]) != woke[r]) {
+                if (street.wakes(house[r], street.sound(clock[r]), place[r]) != woke[r]) {
                     return 0;
                 }
             }

@@ -23,7 +23,7 @@ final class Model {
         }
     }
 
-    private record Reading(int clock, int at, boolean stuffed, int house, boolean woke) {
+    private record Reading(int clock, int at, int house, boolean woke) {
     }
 
     private static final class Row {
@@ -516,7 +516,7 @@ final class Model {
         if (readings.size() == 8) {
             return -4;
         }
-        readings.add(new Reading(c, at, clocks.get(c).stuffed, h, woke == 1));
+        readings.add(new Reading(c, at, h, woke == 1));
         return readings.size() - 1;
     }
 
@@ -531,10 +531,7 @@ final class Model {
     }
 
     private boolean allAreSo() {
-        return readings.stream().allMatch(r -> {
-            int loud = clocks.get(r.clock).loud;
-            return wakes(r.house, r.stuffed ? loud / 2 : loud, r.at) == r.woke;
-        });
+        return readings.stream().allMatch(r -> wakes(r.house, sound(r.clock), r.at) == r.woke);
     }
 
     private int depths(int h) {

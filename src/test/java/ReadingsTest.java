@@ -5,7 +5,7 @@ final class ReadingsTest {
         notingAndTakingBack();
         guesses();
         othersStayAsTheyAre();
-        stuffedWhenRead();
+        stuffedWhenAsked();
         odds();
         Due.end();
     }
@@ -71,19 +71,32 @@ final class ReadingsTest {
         Due.due("where it stood when it was read", x.depths(0), 254);
     }
 
-    private static void stuffedWhenRead() {
+    private static void stuffedWhenAsked() {
         ClockWakers x = Due.street("c0;s5;s5,80");
         x.stuff(0);
         x.reading(0, 0, 0, 1);
-        Due.due("through its stuffing", x.depths(0), 0b11110);
+        Due.all("through its stuffing", 0, x.depths(0) - 0b11110, x.kinds(0) - 0b110, x.louds(0), x.walls());
         x.ease(0);
-        Due.due("it was stuffed then", x.depths(0), 0b11110);
-        Due.due("it was stuffed then", x.louds(0), 0);
-        x.reading(0, 0, 0, 1);
-        Due.due("both", x.depths(0), 0b11110);
+        Due.all("eased behind the reading", 0, x.depths(0) - 0b111111110, x.kinds(0) - 0b111, x.louds(0) - 0b1111100000, x.walls() - 15);
+        x.reading(0, 1, 0, 1);
+        x.stuff(0);
+        Due.all("stuffed behind one of them", 0, x.depths(0) - 0b11110, x.kinds(0) - 0b110, x.louds(0), x.walls());
         x.back(2);
+        x.ease(0);
+        x.reading(0, 0, 0, 0);
+        Due.all("he would wake", 0, x.depths(0) - 0b1000000000, x.kinds(0), x.louds(0) - 0b11110, x.walls());
+        x.stuff(0);
+        Due.all("he would not, stuffed", 0, x.depths(0) - 0b1111100000, x.kinds(0) - 1, x.louds(0) - 0b1111111110, x.walls() - 15);
+        onlyItsOwnStuffing();
+    }
+
+    private static void onlyItsOwnStuffing() {
+        ClockWakers x = Due.street("c0;s5;s5,80,81");
         x.reading(0, 0, 0, 1);
-        Due.due("it was not stuffed then", x.depths(0), 0b111111110);
+        x.stuff(1);
+        Due.all("another clock's stuffing", 0, x.depths(0) - 0b111111110, x.louds(1) - 1022, x.walls() - 15);
+        x.stuff(0);
+        Due.all("what is read of clock 0 binds clock 1's guesses", 0, x.louds(1), x.depths(1));
     }
 
     private static void odds() {
