@@ -30,7 +30,9 @@ final class FaceTest {
         methods();
         fields();
         classes();
-        source(Files.readString(Path.of("src/main/java/ClockWakers.java")));
+        String source = Files.readString(Path.of("src/main/java/ClockWakers.java"));
+        source(source);
+        document(Files.readString(Path.of("../shared/DOC.md")), source);
         wrong.forEach(System.out::println);
         System.out.println(wrong.size() + " faults of the face");
         System.exit(wrong.isEmpty() ? 0 : 1);
@@ -100,6 +102,39 @@ final class FaceTest {
             }
             check(own <= 20, c + " has more than twenty fields");
         }
+    }
+
+    /** The face as the document writes it, line by line, with the names of parameters, too. */
+    private static void document(String document, String source) {
+        int begin = document.indexOf("public final class ClockWakers {");
+        int end = document.indexOf("\n}", begin);
+        check(begin >= 0 && end >= 0, "the document has no face");
+        Set<String> promised = new TreeSet<>();
+        if (begin >= 0 && end >= 0) {
+            for (String line : document.substring(begin, end).split("\n")) {
+                promised.add(line.replaceFirst("\\);$", ") {"));
+            }
+        }
+        Set<String> written = new TreeSet<>();
+        for (String line : source.split("\n")) {
+            if (line.stripLeading().startsWith("public ")) {
+                written.add(line);
+            }
+        }
+        check(promised.equals(written), "the document's face is " + promised + ", the source's " + written);
+        headings(document, source);
+    }
+
+    /** Ahead of which calls the interface says what. */
+    private static void headings(String document, String source) {
+        Matcher m = Pattern.compile("Ahead of the calls `(\\w+)`.* the interface says: (---- .*)\\.\n").matcher(document);
+        int found = 0;
+        while (m.find()) {
+            found++;
+            Pattern heading = Pattern.compile("// " + m.group(2) + "\n\n    public \\w+ " + m.group(1) + "\\(");
+            check(heading.matcher(source).find(), m.group(2) + " does not stand ahead of " + m.group(1));
+        }
+        check(found == 5, "the document has " + found + " headings of its interface");
     }
 
     private static void source(String text) {
